@@ -1,4 +1,5 @@
-import java.util.function.IntSupplier;
+import java.util.function.Supplier;
+import java.util.function.ToIntFunction;
 
 /** Counts the answers that are not due, and ends a test. */
 final class Check {
@@ -26,25 +27,23 @@ final class Check {
         }
     }
 
-    /** A call that returns an error, and changes nothing that can be asked for. */
-    static void refused(TinKitchen kitchen, String call, int error, IntSupplier answer) {
-        String before = look(kitchen);
-        due(call, error, answer.getAsInt());
-        same("the kitchen behind " + call, before, look(kitchen));
-    }
-
-    /** A call that only asks, and changes nothing. */
-    static void asked(TinKitchen kitchen, String call, int want, IntSupplier answer) {
-        refused(kitchen, call, want, answer);
+    /**
+     * A call that changes nothing: of two kitchens that start alike, one is called, and then both are
+     * looked at, and looked at again when their latest change is undone.
+     */
+    static void unchanged(Supplier<TinKitchen> start, String call, int want, ToIntFunction<TinKitchen> answer) {
+        TinKitchen left = start.get();
+        TinKitchen called = start.get();
+        due(call, want, answer.applyAsInt(called));
+        same("the kitchen behind " + call, look(left), look(called));
+        left.undo();
+        called.undo();
+        same("what is undone behind " + call, look(left), look(called));
     }
 
     static void end(String test) {
         System.out.println(test + ": " + checked + " answers, " + wrong + " not as due");
         System.exit(wrong == 0 && checked > 0 ? 0 : 1);
-    }
-
-    static boolean isRight() {
-        return wrong == 0;
     }
 
     /** Puts a text on the pad, and answers what the last put answered. */
