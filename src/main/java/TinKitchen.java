@@ -38,7 +38,7 @@ public final class TinKitchen {
     private final State[] slots = new State[SLOTS];
     private final boolean[] isSaved = new boolean[SLOTS];
     private final Pad pad = new Pad();
-    private final Reader reader = new Reader();
+    private final Reader reader = new Reader(pad);
     private final Shopping shopping = new Shopping();
     private final Schedule schedule = new Schedule();
 
@@ -134,7 +134,7 @@ public final class TinKitchen {
     // ---- recipes, menus
 
     public int recipe() {
-        if (reader.read(pad) != NONE) {
+        if (reader.read() != NONE) {
             return BAD_TEXT;
         }
         int number = now.recipes;
@@ -397,7 +397,7 @@ public final class TinKitchen {
     }
 
     public int fault() {
-        return reader.read(pad);
+        return reader.read();
     }
 
     // ---- undo, saving
@@ -1208,16 +1208,19 @@ public final class TinKitchen {
         }
     }
 
-    /** Reads the recipe of a pad, from left to right, up to its fault. */
+    /** Reads the recipe of the pad, from left to right, up to its fault. */
     private static final class Reader {
         final Recipe found = new Recipe();
-        private Pad pad = new Pad();
+        private final Pad pad;
         private int place;
         private boolean isGood;
 
+        Reader(Pad pad) {
+            this.pad = pad;
+        }
+
         /** Answers the fault of the text, NONE if there is none. */
-        int read(Pad text) {
-            pad = text;
+        int read() {
             place = 0;
             isGood = true;
             found.clear();

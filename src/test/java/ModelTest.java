@@ -12,6 +12,8 @@ public final class ModelTest {
     private final Model model = new Model();
     private final int run;
     private final boolean isLarge;
+    // All tins cost the same by the gram, so that many ways to buy are as good.
+    private final boolean isEven;
     private String text = "";
     private int calls;
 
@@ -19,6 +21,7 @@ public final class ModelTest {
         this.run = run;
         random = new Random(run);
         isLarge = run % 4 == 0;
+        isEven = run % 4 == 1;
     }
 
     public static void main(String[] arguments) {
@@ -78,8 +81,8 @@ public final class ModelTest {
             }
             case 1: case 2: {
                 int of = ingredient();
-                int size = random.nextBoolean() ? from(1, 20) * 50 : from(50, random.nextBoolean() ? 2000 : 60);
-                int price = random.nextBoolean() ? size / 10 : from(1, random.nextBoolean() ? 999 : 20);
+                int size = isEven || random.nextBoolean() ? from(1, isEven ? 6 : 20) * 50 : from(50, random.nextBoolean() ? 2000 : 60);
+                int price = isEven || random.nextBoolean() ? size / 10 : from(1, random.nextBoolean() ? 999 : 20);
                 due("tin(" + of + ", " + size + ", " + price + ")", model.tin(of, size, price), kitchen.tin(of, size, price));
                 break;
             }

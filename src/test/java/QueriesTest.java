@@ -18,6 +18,7 @@ public final class QueriesTest {
         stepAnswers();
         stepsTakeTurns();
         stepsThatNeverBegin();
+        stepsAreThoseOfTheText();
         stepRefuses();
         ofRecipeAnswers();
         countAnswers();
@@ -175,10 +176,10 @@ public final class QueriesTest {
             kitchen.tin(0, tins[at], tins[at + 1]);
         }
         Check.recipe(kitchen, "1a1");
-        Check.recipe(kitchen, "1a1");
-        int amount = grams % 20 == 0 ? grams / 20 : grams;
-        kitchen.amount(0, 0, amount);
-        kitchen.menu(0, grams % 20 == 0 ? 20 : 1);
+        boolean isMuch = grams > 500;
+        kitchen.amount(0, 0, isMuch ? grams / 20 : grams);
+        kitchen.menu(0, isMuch ? 20 : 1);
+        Check.due("needed", grams, kitchen.needs(0, 0));
         return kitchen;
     }
 
@@ -213,6 +214,10 @@ public final class QueriesTest {
         bought(needing(300, 150, 15, 100, 10, 200, 20), 30, 300, 0, 1, 1);
         bought(needing(300, 200, 20, 100, 10, 150, 15), 30, 300, 0, 0, 2);
         bought(needing(300, 100, 10, 200, 20, 150, 15), 30, 300, 0, 0, 2);
+        bought(needing(350, 50, 5, 150, 15, 250, 25), 35, 350, 1, 2, 0);
+        bought(needing(350, 100, 10, 150, 15, 50, 5), 35, 350, 0, 2, 1);
+        bought(needing(600, 150, 15, 50, 5, 250, 25), 60, 600, 0, 2, 2);
+        bought(needing(500, 150, 15, 100, 10, 50, 5), 50, 500, 2, 2, 0);
         // fewer tins that are heavier do not count
         bought(needing(110, 55, 5, 120, 10), 10, 110, 2, 0);
     }
@@ -295,6 +300,20 @@ public final class QueriesTest {
         Check.due("no portions: end", 0, kitchen.count(8));
         Check.due("no portions: bound", 0, kitchen.count(9));
         Check.due("no portions: work", 0, kitchen.count(10));
+    }
+
+    /** What a longer text left behind does not belong to the steps of a shorter one. */
+    private static void stepsAreThoseOfTheText() {
+        TinKitchen kitchen = new TinKitchen();
+        Check.recipe(kitchen, "1;9/1;9/1;200/1@0@1;100/1@0@2");
+        Check.recipe(kitchen, "1;9/1;9/1;9/1@0;9/1@0x");
+        Check.due("recipe", 1, Check.recipe(kitchen, "1;7/1;5/1"));
+        kitchen.menu(1, 1);
+        Check.due("tail", 7, kitchen.step(1, 0, 4));
+        Check.due("no third step", NO_SUCH, kitchen.step(1, 2, 0));
+        Check.due("end", 7, kitchen.count(8));
+        Check.due("bound", 7, kitchen.count(9));
+        Check.due("work", 12, kitchen.count(10));
     }
 
     private static void stepRefuses() {

@@ -17,6 +17,7 @@ public final class RecipesTest {
         handsAnswerThePrevious();
         cookUsesThePantryFirst();
         cookUsesWhatSpoilsFirst();
+        cookUsesWhatWasJustPutIn();
         cookPutsLeftoversIntoThePantry();
         cookKeepsAccounts();
         cookNeedsPortionsAndAllThings();
@@ -83,9 +84,16 @@ public final class RecipesTest {
         Check.unchanged(() -> withPad("1c0"), "recipe() of 1c0", BAD_TEXT, TinKitchen::recipe);
         Check.unchanged(() -> withPad("1c5"), "recipe() of 1c5", NOT_POSSIBLE, TinKitchen::recipe);
         Check.unchanged(() -> withPad("1a5h500"), "recipe() of 1a5h500", NOT_POSSIBLE, TinKitchen::recipe);
+        Check.unchanged(RecipesTest::noIngredients, "recipe() of 1a1", NOT_POSSIBLE, TinKitchen::recipe);
         Check.unchanged(() -> fourRecipes("1c5"), "fifth recipe() of 1c5", TOO_MANY, TinKitchen::recipe);
         Check.unchanged(() -> fourRecipes("1a5"), "fifth recipe() of 1a5", TOO_MANY, TinKitchen::recipe);
         Check.unchanged(() -> fourRecipes("1a"), "fifth recipe() of 1a", BAD_TEXT, TinKitchen::recipe);
+    }
+
+    private static TinKitchen noIngredients() {
+        TinKitchen kitchen = new TinKitchen();
+        Check.write(kitchen, "1a1");
+        return kitchen;
     }
 
     private static void amountAnswersThePrevious() {
@@ -169,6 +177,22 @@ public final class RecipesTest {
         kitchen.cook();
         Check.due("lots, all used", 0, kitchen.about(0, 6));
         Check.due("first day", NONE, kitchen.about(0, 7));
+    }
+
+    private static void cookUsesWhatWasJustPutIn() {
+        TinKitchen kitchen = new TinKitchen();
+        kitchen.ingredient(30);
+        Check.recipe(kitchen, "1a100");
+        kitchen.menu(0, 1);
+        kitchen.stock(0, 150);
+        Check.due("cook()", 0, kitchen.cook());
+        Check.due("left of a lot of 30 days", 50, kitchen.about(0, 5));
+        kitchen.pass(29);
+        kitchen.stock(0, 60);
+        kitchen.menu(0, 1);
+        Check.due("cook()", 0, kitchen.cook());
+        Check.due("left of both", 10, kitchen.about(0, 5));
+        Check.due("pass(1)", 0, kitchen.pass(1));
     }
 
     private static void cookPutsLeftoversIntoThePantry() {
