@@ -44,6 +44,10 @@ public final class FaceTest {
         return new TreeSet<>(List.of(text.split(" ")));
     }
 
+    private static Set<String> faceNames() {
+        return words(FACE.replaceAll("\\([^)]*\\)", ""));
+    }
+
     private static String told(Method method) {
         return method.getName() + Arrays.stream(method.getParameterTypes()).map(Class::getName)
             .collect(Collectors.joining(",", "(", ")"));
@@ -51,7 +55,6 @@ public final class FaceTest {
 
     private static void theFaceIsThatOfTheDocument() {
         Check.due("public final", Modifier.PUBLIC | Modifier.FINAL, TinKitchen.class.getModifiers());
-        Set<String> names = words(FACE.replaceAll("\\([^)]*\\)", ""));
         Set<String> methods = new TreeSet<>();
         for (Method method : TinKitchen.class.getDeclaredMethods()) {
             boolean isPublic = Modifier.isPublic(method.getModifiers());
@@ -60,7 +63,7 @@ public final class FaceTest {
                 Check.same("what answers " + method, "int", method.getReturnType().getName());
             } else {
                 Check.due("private: " + method, 1, Modifier.isPrivate(method.getModifiers()) ? 1 : 0);
-                Check.due("a name of its own: " + method, 0, names.contains(method.getName()) ? 1 : 0);
+                Check.due("a name of its own: " + method, 0, faceNames().contains(method.getName()) ? 1 : 0);
             }
         }
         Check.same("the methods", words(FACE).toString(), methods.toString());
@@ -92,6 +95,8 @@ public final class FaceTest {
         Check.due("at most twenty fields in " + one, 1, fields <= 20 ? 1 : 0);
         for (Method method : one.getDeclaredMethods()) {
             Check.due("at most seven parameters: " + method, 1, method.getParameterCount() <= 7 ? 1 : 0);
+            boolean isOfTheFace = faceNames().contains(method.getName());
+            Check.due("a name of its own: " + method, 0, isInside && isOfTheFace ? 1 : 0);
         }
     }
 

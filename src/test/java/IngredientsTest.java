@@ -1,23 +1,13 @@
 /** Promises 2 to 6: ingredient, tin, buyable, substitute, stock. */
 public final class IngredientsTest {
-    private static final int NO_SUCH = TinKitchen.NO_SUCH;
-    private static final int BAD_VALUE = TinKitchen.BAD_VALUE;
-    private static final int TOO_MANY = TinKitchen.TOO_MANY;
-    private static final int NOT_POSSIBLE = TinKitchen.NOT_POSSIBLE;
     private static final int NONE = TinKitchen.NONE;
 
     public static void main(String[] arguments) {
         ingredientsAreNumbered();
-        ingredientRefuses();
         tinsAreKinds();
-        tinRefuses();
         buyableAnswersThePrevious();
-        buyableRefuses();
         substituteAnswersThePrevious();
-        substituteRefuses();
         stockJoinsLots();
-        stockRefuses();
-        stockIsBounded();
         Check.end("IngredientsTest");
     }
 
@@ -30,21 +20,6 @@ public final class IngredientsTest {
         kitchen.tin(0, 100, 40);
         kitchen.substitute(0, 2, 150);
         kitchen.stock(0, 300);
-        return kitchen;
-    }
-
-    private static TinKitchen full() {
-        TinKitchen kitchen = new TinKitchen();
-        for (int number = 0; number < 8; number++) {
-            kitchen.ingredient(1 + number);
-        }
-        return kitchen;
-    }
-
-    private static TinKitchen threeKinds() {
-        TinKitchen kitchen = three();
-        kitchen.tin(0, 50, 999);
-        kitchen.tin(0, 2000, 1);
         return kitchen;
     }
 
@@ -63,14 +38,6 @@ public final class IngredientsTest {
         Check.due("recorded", 6, kitchen.count(14));
     }
 
-    private static void ingredientRefuses() {
-        Check.unchanged(IngredientsTest::three, "ingredient(0)", BAD_VALUE, k -> k.ingredient(0));
-        Check.unchanged(IngredientsTest::three, "ingredient(31)", BAD_VALUE, k -> k.ingredient(31));
-        Check.unchanged(IngredientsTest::three, "ingredient(-1)", BAD_VALUE, k -> k.ingredient(-1));
-        Check.unchanged(IngredientsTest::full, "full: ingredient(1)", TOO_MANY, k -> k.ingredient(1));
-        Check.unchanged(IngredientsTest::full, "full: ingredient(31)", BAD_VALUE, k -> k.ingredient(31));
-    }
-
     private static void tinsAreKinds() {
         TinKitchen kitchen = three();
         Check.due("tin(1, 50, 999)", 1, kitchen.tin(1, 50, 999));
@@ -86,20 +53,6 @@ public final class IngredientsTest {
         Check.due("undone kinds of 0", 1, kitchen.about(0, 2));
     }
 
-    private static void tinRefuses() {
-        Check.unchanged(IngredientsTest::three, "tin(3, 1, 0)", NO_SUCH, k -> k.tin(3, 1, 0));
-        Check.unchanged(IngredientsTest::three, "tin(-1, 50, 1)", NO_SUCH, k -> k.tin(-1, 50, 1));
-        Check.unchanged(IngredientsTest::three, "tin(1, 49, 1)", BAD_VALUE, k -> k.tin(1, 49, 1));
-        Check.unchanged(IngredientsTest::three, "tin(1, 2001, 1)", BAD_VALUE, k -> k.tin(1, 2001, 1));
-        Check.unchanged(IngredientsTest::three, "tin(1, 50, 0)", BAD_VALUE, k -> k.tin(1, 50, 0));
-        Check.unchanged(IngredientsTest::three, "tin(1, 50, 1000)", BAD_VALUE, k -> k.tin(1, 50, 1000));
-        Check.unchanged(IngredientsTest::three, "tin(0, 100, 1)", NOT_POSSIBLE, k -> k.tin(0, 100, 1));
-        Check.unchanged(IngredientsTest::three, "tin(0, 100, 0)", BAD_VALUE, k -> k.tin(0, 100, 0));
-        Check.unchanged(IngredientsTest::threeKinds, "tin(0, 60, 1)", TOO_MANY, k -> k.tin(0, 60, 1));
-        Check.unchanged(IngredientsTest::threeKinds, "tin(0, 50, 1)", TOO_MANY, k -> k.tin(0, 50, 1));
-        Check.unchanged(IngredientsTest::threeKinds, "tin(0, 49, 1)", BAD_VALUE, k -> k.tin(0, 49, 1));
-    }
-
     private static void buyableAnswersThePrevious() {
         TinKitchen kitchen = three();
         Check.due("buyable(2, 0)", 1, kitchen.buyable(2, 0));
@@ -110,13 +63,6 @@ public final class IngredientsTest {
         Check.due("buyable(2, 1) again", 1, kitchen.buyable(2, 1));
         Check.due("about(2, 1)", 1, kitchen.about(2, 1));
         Check.due("recorded", 6, kitchen.count(14));
-    }
-
-    private static void buyableRefuses() {
-        Check.unchanged(IngredientsTest::three, "buyable(3, 2)", NO_SUCH, k -> k.buyable(3, 2));
-        Check.unchanged(IngredientsTest::three, "buyable(-1, 0)", NO_SUCH, k -> k.buyable(-1, 0));
-        Check.unchanged(IngredientsTest::three, "buyable(0, 2)", BAD_VALUE, k -> k.buyable(0, 2));
-        Check.unchanged(IngredientsTest::three, "buyable(0, -1)", BAD_VALUE, k -> k.buyable(0, -1));
     }
 
     private static void substituteAnswersThePrevious() {
@@ -134,19 +80,6 @@ public final class IngredientsTest {
         Check.due("substitute(1, 2, 10)", NONE, kitchen.substitute(1, 2, 10));
     }
 
-    private static void substituteRefuses() {
-        Check.unchanged(IngredientsTest::three, "substitute(3, 2, 0)", NO_SUCH, k -> k.substitute(3, 2, 0));
-        Check.unchanged(IngredientsTest::three, "substitute(-6, NONE, 0)", NO_SUCH, k -> k.substitute(-6, NONE, 0));
-        Check.unchanged(IngredientsTest::three, "substitute(0, 3, 0)", NO_SUCH, k -> k.substitute(0, 3, 0));
-        Check.unchanged(IngredientsTest::three, "substitute(0, -1, 10)", NO_SUCH, k -> k.substitute(0, -1, 10));
-        Check.unchanged(IngredientsTest::three, "substitute(0, -5, 10)", NO_SUCH, k -> k.substitute(0, -5, 10));
-        Check.unchanged(IngredientsTest::three, "substitute(0, -7, 10)", NO_SUCH, k -> k.substitute(0, -7, 10));
-        Check.unchanged(IngredientsTest::three, "substitute(1, 1, 10)", BAD_VALUE, k -> k.substitute(1, 1, 10));
-        Check.unchanged(IngredientsTest::three, "substitute(1, 0, 10)", BAD_VALUE, k -> k.substitute(1, 0, 10));
-        Check.unchanged(IngredientsTest::three, "substitute(0, 1, 9)", BAD_VALUE, k -> k.substitute(0, 1, 9));
-        Check.unchanged(IngredientsTest::three, "substitute(0, 1, 201)", BAD_VALUE, k -> k.substitute(0, 1, 201));
-    }
-
     private static void stockJoinsLots() {
         TinKitchen kitchen = three();
         Check.due("stock(0, 1)", 301, kitchen.stock(0, 1));
@@ -161,35 +94,5 @@ public final class IngredientsTest {
         Check.due("first day of 2", 31, kitchen.about(2, 7));
         Check.due("stock of 0", 20301, kitchen.about(0, 5));
         Check.due("bought of 0", 0, kitchen.about(0, 8));
-    }
-
-    private static void stockRefuses() {
-        Check.unchanged(IngredientsTest::three, "stock(3, 0)", NO_SUCH, k -> k.stock(3, 0));
-        Check.unchanged(IngredientsTest::three, "stock(-1, 1)", NO_SUCH, k -> k.stock(-1, 1));
-        Check.unchanged(IngredientsTest::three, "stock(0, 0)", BAD_VALUE, k -> k.stock(0, 0));
-        Check.unchanged(IngredientsTest::three, "stock(0, -1)", BAD_VALUE, k -> k.stock(0, -1));
-        Check.unchanged(IngredientsTest::three, "stock(0, 20001)", BAD_VALUE, k -> k.stock(0, 20001));
-        Check.unchanged(IngredientsTest::three, "stock(0, MAX)", BAD_VALUE, k -> k.stock(0, Integer.MAX_VALUE));
-    }
-
-    /** 80300 grams of 0, in lots of several days. */
-    private static TinKitchen muchStock() {
-        TinKitchen kitchen = three();
-        for (int day = 0; day < 3; day++) {
-            kitchen.stock(0, 20000);
-            kitchen.pass(1);
-        }
-        kitchen.stock(0, 20000);
-        return kitchen;
-    }
-
-    private static void stockIsBounded() {
-        Check.unchanged(IngredientsTest::muchStock, "stock(0, 19701)", NOT_POSSIBLE, k -> k.stock(0, 19701));
-        Check.unchanged(IngredientsTest::muchStock, "stock(0, 20001)", BAD_VALUE, k -> k.stock(0, 20001));
-        TinKitchen kitchen = muchStock();
-        Check.due("stock(0, 19700)", 100000, kitchen.stock(0, 19700));
-        Check.due("stock(0, 1)", NOT_POSSIBLE, kitchen.stock(0, 1));
-        Check.due("stock(1, 1)", 1, kitchen.stock(1, 1));
-        Check.due("lots of 0", 4, kitchen.about(0, 6));
     }
 }

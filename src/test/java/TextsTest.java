@@ -1,15 +1,11 @@
 /** Promises 22 to 24: put, wipe, fault. */
 public final class TextsTest {
-    private static final int BAD_VALUE = TinKitchen.BAD_VALUE;
     private static final int BAD_TEXT = TinKitchen.BAD_TEXT;
-    private static final int TOO_MANY = TinKitchen.TOO_MANY;
     private static final int NONE = TinKitchen.NONE;
     private static final String TEN = "1234567890";
 
     public static void main(String[] arguments) {
         putAppends();
-        putRefuses();
-        putIsBounded();
         textsAreNoChanges();
         wipeAnswersTheLength();
         faultsOfNumbers();
@@ -52,43 +48,6 @@ public final class TextsTest {
         Check.due("in their order: duration", 9, kitchen.step(0, 0, 0));
         Check.due("put(33)", 1, kitchen.put(33));
         Check.due("put(126)", 2, kitchen.put(126));
-    }
-
-    private static void putRefuses() {
-        Check.unchanged(TextsTest::written, "put(0)", BAD_VALUE, k -> k.put(0));
-        Check.unchanged(TextsTest::written, "put(32)", BAD_VALUE, k -> k.put(32));
-        Check.unchanged(TextsTest::written, "put(127)", BAD_VALUE, k -> k.put(127));
-        Check.unchanged(TextsTest::written, "put(128)", BAD_VALUE, k -> k.put(128));
-        Check.unchanged(TextsTest::written, "put(-1)", BAD_VALUE, k -> k.put(-1));
-        Check.unchanged(TextsTest::written, "put(MIN)", BAD_VALUE, k -> k.put(Long.MIN_VALUE));
-        Check.unchanged(TextsTest::written, "put of 32 among good ones", BAD_VALUE, k -> k.put(Check.number("12 34")));
-        Check.unchanged(TextsTest::written, "put of 32 as the first", BAD_VALUE, k -> k.put(Check.number(" 1234567")));
-        Check.unchanged(TextsTest::written, "put of 127 as the first", BAD_VALUE, k -> k.put(127L << 56 | Check.number("1234567")));
-        Check.unchanged(TextsTest::written, "put of 0 among good ones", BAD_VALUE, k -> k.put(Check.number("1\0002")));
-        Check.unchanged(TextsTest::written, "put of 0 as the last", BAD_VALUE, k -> k.put(Check.number("12\000")));
-        Check.unchanged(TextsTest::written, "put of a high bit", BAD_VALUE, k -> k.put(1L << 63 | '1'));
-        Check.unchanged(TextsTest::written, "put of a bit behind 0", BAD_VALUE, k -> k.put(1L << 16 | '1'));
-    }
-
-    private static void putIsBounded() {
-        TinKitchen kitchen = full(78);
-        Check.due("put(2 more)", 80, kitchen.put(Check.number("ab")));
-        Check.due("put(1 more)", TOO_MANY, kitchen.put('a'));
-        Check.unchanged(() -> full(79), "79: put(2 more)", TOO_MANY, k -> k.put(Check.number("ab")));
-        Check.unchanged(() -> full(80), "80: put(1 more)", TOO_MANY, k -> k.put('a'));
-        Check.unchanged(() -> full(73), "73: put(8 more)", TOO_MANY, k -> k.put(Check.number("abcdefgh")));
-        Check.unchanged(() -> full(80), "80: put(0)", BAD_VALUE, k -> k.put(0));
-        Check.unchanged(() -> full(80), "80: put(32)", BAD_VALUE, k -> k.put(32));
-        Check.due("72: put(8 more)", 80, full(72).put(Check.number("abcdefgh")));
-        TinKitchen whole = new TinKitchen();
-        whole.ingredient(1);
-        whole.ingredient(1);
-        String text = "20a500b1;240/3*;240/3*@0;240/3*@0@1;240/3*@0@1@2;240/3*@0@1@2@3;120/1*@0@1@2@3@4";
-        Check.due("a text of 80", 80, Check.write(whole, text));
-        Check.due("fault() of 80", NONE, whole.fault());
-        Check.due("recipe() of 80", 0, whole.recipe());
-        Check.due("its steps", 6, whole.ofRecipe(0, 1));
-        Check.due("its last character", 0b11111, whole.step(0, 5, 2));
     }
 
     private static void textsAreNoChanges() {

@@ -1,19 +1,14 @@
 /** Promises 19 to 21: bestPortions, fewestHands, ifBuyable. */
 public final class WhatIfTest {
-    private static final int NO_SUCH = TinKitchen.NO_SUCH;
-    private static final int BAD_VALUE = TinKitchen.BAD_VALUE;
     private static final int NONE = TinKitchen.NONE;
 
     public static void main(String[] arguments) {
         bestPortionsLeaveTheLeast();
         bestPortionsSumTheLeftovers();
         bestPortionsCanBeCooked();
-        bestPortionsRefuse();
         fewestHandsEndInTime();
         fewestHandsForSeveralRecipes();
-        fewestHandsRefuse();
         ifBuyableTellsThePrice();
-        ifBuyableRefuses();
         Check.end("WhatIfTest");
     }
 
@@ -91,22 +86,6 @@ public final class WhatIfTest {
         Check.due("nothing needed", 20, kitchen.bestPortions(0, 1, 20));
     }
 
-    private static void bestPortionsRefuse() {
-        Check.unchanged(WhatIfTest::filled, "bestPortions(2, 0, 0)", NO_SUCH, k -> k.bestPortions(2, 0, 0));
-        Check.unchanged(WhatIfTest::filled, "bestPortions(-1, 1, 1)", NO_SUCH, k -> k.bestPortions(-1, 1, 1));
-        Check.unchanged(WhatIfTest::filled, "bestPortions(0, 0, 5)", BAD_VALUE, k -> k.bestPortions(0, 0, 5));
-        Check.unchanged(WhatIfTest::filled, "bestPortions(0, 21, 21)", BAD_VALUE, k -> k.bestPortions(0, 21, 21));
-        Check.unchanged(WhatIfTest::filled, "bestPortions(0, 1, 21)", BAD_VALUE, k -> k.bestPortions(0, 1, 21));
-        Check.unchanged(WhatIfTest::filled, "bestPortions(0, 5, 4)", BAD_VALUE, k -> k.bestPortions(0, 5, 4));
-        Check.unchanged(WhatIfTest::filled, "bestPortions(0, 1, 0)", BAD_VALUE, k -> k.bestPortions(0, 1, 0));
-        Check.unchanged(WhatIfTest::filled, "bestPortions(1, 1, 9)", 5, k -> k.bestPortions(1, 1, 9));
-        TinKitchen kitchen = filled();
-        kitchen.buyable(1, 0);
-        Check.due("missing", NONE, kitchen.bestPortions(1, 1, 9));
-        Check.due("portions stay", 0, kitchen.ofRecipe(1, 2));
-        Check.due("portions stay", 6, kitchen.ofRecipe(0, 2));
-    }
-
     private static void fewestHandsEndInTime() {
         TinKitchen kitchen = filled();
         Check.due("fewestHands(44)", NONE, kitchen.fewestHands(44));
@@ -139,13 +118,6 @@ public final class WhatIfTest {
         Check.due("fewestHands(4800)", 3, kitchen.fewestHands(4800));
     }
 
-    private static void fewestHandsRefuse() {
-        Check.unchanged(WhatIfTest::filled, "fewestHands(-1)", BAD_VALUE, k -> k.fewestHands(-1));
-        Check.unchanged(WhatIfTest::filled, "fewestHands(5001)", BAD_VALUE, k -> k.fewestHands(5001));
-        Check.unchanged(WhatIfTest::filled, "fewestHands(44)", NONE, k -> k.fewestHands(44));
-        Check.unchanged(WhatIfTest::filled, "fewestHands(45)", 2, k -> k.fewestHands(45));
-    }
-
     private static void ifBuyableTellsThePrice() {
         TinKitchen kitchen = filled();
         Check.due("ifBuyable(0, 1)", 120 + 99, kitchen.ifBuyable(0, 1));
@@ -160,14 +132,5 @@ public final class WhatIfTest {
         Check.due("ifBuyable(0, 0)", NONE, kitchen.ifBuyable(0, 0));
         kitchen.menu(0, 0);
         Check.due("ifBuyable(1, 0) without portions", 0, kitchen.ifBuyable(1, 0));
-    }
-
-    private static void ifBuyableRefuses() {
-        Check.unchanged(WhatIfTest::filled, "ifBuyable(2, 2)", NO_SUCH, k -> k.ifBuyable(2, 2));
-        Check.unchanged(WhatIfTest::filled, "ifBuyable(-1, 0)", NO_SUCH, k -> k.ifBuyable(-1, 0));
-        Check.unchanged(WhatIfTest::filled, "ifBuyable(0, 2)", BAD_VALUE, k -> k.ifBuyable(0, 2));
-        Check.unchanged(WhatIfTest::filled, "ifBuyable(0, -1)", BAD_VALUE, k -> k.ifBuyable(0, -1));
-        Check.unchanged(WhatIfTest::filled, "ifBuyable(0, 0)", 99, k -> k.ifBuyable(0, 0));
-        Check.unchanged(WhatIfTest::filled, "ifBuyable(1, 0)", NONE, k -> k.ifBuyable(1, 0));
     }
 }
