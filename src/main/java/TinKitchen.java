@@ -37,8 +37,8 @@ public final class TinKitchen {
     private final History history = new History();
     private final State[] slots = new State[SLOTS];
     private final boolean[] isSaved = new boolean[SLOTS];
-    private final Pad pad = new Pad();
-    private final Reader reader = new Reader(pad);
+    private final Reader reader = new Reader();
+    private final Pad pad = reader.pad;
     private final Shopping shopping = new Shopping();
     private final Schedule schedule = new Schedule();
 
@@ -1211,13 +1211,9 @@ public final class TinKitchen {
     /** Reads the recipe of the pad, from left to right, up to its fault. */
     private static final class Reader {
         final Recipe found = new Recipe();
-        private final Pad pad;
+        final Pad pad = new Pad();
         private int place;
         private boolean isGood;
-
-        Reader(Pad pad) {
-            this.pad = pad;
-        }
 
         /** Answers the fault of the text, NONE if there is none. */
         int read() {
