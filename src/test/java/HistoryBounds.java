@@ -19,6 +19,7 @@ final class HistoryBounds {
         oldest();
         save();
         restore();
+        restoreChanges();
     }
 
     /** One of each kind of change, as it is called on the filled kitchen; each makes a difference. */
@@ -244,6 +245,9 @@ final class HistoryBounds {
         Check.due("an empty kitchen: restore(0)", 0, empty.restore(0));
         Check.due("an empty kitchen: count(1)", 0, empty.count(1));
         Check.due("an empty kitchen: count(0)", 0, empty.count(0));
+    }
+
+    private static void restoreChanges() {
         Document.sentence("This is a change");
         Check.change(Kitchens::filled, "restore(0)", 0, k -> k.restore(0));
         Check.change(Kitchens::filled, "restore(1)", 1, k -> k.restore(1));

@@ -58,7 +58,8 @@ final class QuestionBounds {
     }
 
     private static void aboutPantry() {
-        Document.sentence("`what`: 0 for how many days it keeps");
+        Document.sentence("`what`: 0 for how many days it keeps, 1 whether it can be bought (1 or 0), 2 its kinds of tins, 3 its "
+            + "substitute (NONE if it has none), 4 the rate of that (NONE without a substitute)");
         TinKitchen kitchen = new TinKitchen();
         kitchen.ingredient(30);
         kitchen.ingredient(1);
@@ -76,34 +77,52 @@ final class QuestionBounds {
         kitchen.substitute(0, NONE, 200);
         Check.due("3, without: about(0, 3)", NONE, kitchen.about(0, 3));
         Check.due("4, without: about(0, 4)", NONE, kitchen.about(0, 4));
+        aboutLots();
+        aboutAccounts();
+        whats(Kitchens::filled, "about(0, #)", 11, (k, what) -> k.about(0, what));
+    }
+
+    private static void aboutLots() {
+        Document.sentence("6 its lots, 7 the day on which the first lot spoils (NONE without lots)");
+        TinKitchen kitchen = new TinKitchen();
+        kitchen.ingredient(30);
+        for (int day = 0; day < 30; day++) {
+            kitchen.stock(0, 1);
+            Check.due("6, one for each day: about(0, 6)", 1 + day, kitchen.about(0, 6));
+            Check.due("7, the first of them: about(0, 7)", 30, kitchen.about(0, 7));
+            kitchen.pass(1);
+        }
+        Check.due("6, the first is away: about(0, 6)", 29, kitchen.about(0, 6));
+        Check.due("7, the first is away: about(0, 7)", 31, kitchen.about(0, 7));
+        kitchen.pass(28);
+        Check.due("6, the last is there: about(0, 6)", 1, kitchen.about(0, 6));
+        Check.due("7, the last is there: about(0, 7)", 59, kitchen.about(0, 7));
+        kitchen.pass(1);
+        Check.due("6, all are away: about(0, 6)", 0, kitchen.about(0, 6));
+        Check.due("7, all are away: about(0, 7)", NONE, kitchen.about(0, 7));
+    }
+
+    private static void aboutAccounts() {
+        Document.sentence("8 all grams that were bought, 9 all that were used, 10 all that were thrown away, 11 all that were put in by "
+            + "stock()");
+        TinKitchen kitchen = new TinKitchen();
+        kitchen.ingredient(30);
         for (int day = 0; day < 5; day++) {
             kitchen.stock(0, 20000);
             kitchen.pass(1);
         }
-        answers("full: about(0, #)", what -> kitchen.about(0, what), 30, 0, 3, NONE, NONE, 100000, 5, 30, 0, 0, 0, 100000);
+        answers("full: about(0, #)", what -> kitchen.about(0, what), 30, 1, 0, NONE, NONE, 100000, 5, 30, 0, 0, 0, 100000);
         kitchen.pass(24);
         Check.due("7, on the day before: about(0, 7)", 30, kitchen.about(0, 7));
         kitchen.pass(1);
-        answers("one is away: about(0, #)", what -> kitchen.about(0, what), 30, 0, 3, NONE, NONE, 80000, 4, 31, 0, 0, 20000, 100000);
+        answers("one is away: about(0, #)", what -> kitchen.about(0, what), 30, 1, 0, NONE, NONE, 80000, 4, 31, 0, 0, 20000, 100000);
         kitchen.pass(4);
-        answers("all are away: about(0, #)", what -> kitchen.about(0, what), 30, 0, 3, NONE, NONE, 0, 0, NONE, 0, 0, 100000, 100000);
-        TinKitchen lots = new TinKitchen();
-        lots.ingredient(30);
-        for (int day = 0; day < 29; day++) {
-            lots.stock(0, 1);
-            lots.pass(1);
-        }
-        lots.stock(0, 1);
-        Check.due("6, one for each day: about(0, 6)", 30, lots.about(0, 6));
-        Check.due("7, the first of them: about(0, 7)", 30, lots.about(0, 7));
-        lots.pass(1);
-        Check.due("6, the first is away: about(0, 6)", 29, lots.about(0, 6));
+        answers("all are away: about(0, #)", what -> kitchen.about(0, what), 30, 1, 0, NONE, NONE, 0, 0, NONE, 0, 0, 100000, 100000);
         TinKitchen cooked = Kitchens.needing(51);
         cooked.tin(0, 50, 1);
         cooked.stock(0, 1);
         cooked.cook();
         answers("nothing is left over: about(0, #)", what -> cooked.about(0, what), 30, 1, 1, NONE, NONE, 0, 0, NONE, 50, 51, 0, 1);
-        whats(Kitchens::filled, "about(0, #)", 11, (k, what) -> k.about(0, what));
     }
 
     private static void ofTin() {

@@ -202,10 +202,19 @@ final class TermBounds {
         Check.due("too dear", BAD_VALUE, eight.tin(0, 51, 1000));
         Check.due("the third kind", 3, eight.tin(0, 51, 1));
         Check.due("a fourth kind", TOO_MANY, eight.tin(0, 52, 1));
+        kinds(eight);
+        substitutes(eight);
+        lots();
+    }
+
+    private static void kinds(TinKitchen eight) {
         Document.sentence("no two kinds of an ingredient have the same size");
         Check.due("of another ingredient: tin(1, 50, 999)", 1, eight.tin(1, 50, 999));
         Check.due("the same size: tin(1, 50, 998)", NOT_POSSIBLE, eight.tin(1, 50, 998));
         Check.due("the same price: tin(1, 51, 999)", 2, eight.tin(1, 51, 999));
+    }
+
+    private static void substitutes(TinKitchen eight) {
         Document.sentence("It can have a substitute: a later ingredient, and a rate (10 to 200)");
         Check.due("the next one", NONE, eight.substitute(0, 1, 10));
         Check.due("the last one", 1, eight.substitute(0, 7, 200));
@@ -214,6 +223,9 @@ final class TermBounds {
         Check.due("for the last one", BAD_VALUE, eight.substitute(7, 7, 100));
         Check.due("too low a rate", BAD_VALUE, eight.substitute(0, 7, 9));
         Check.due("too high a rate", BAD_VALUE, eight.substitute(0, 7, 201));
+    }
+
+    private static void lots() {
         Document.sentence("The pantry has lots of ingredients: each has a weight, and the day on which it spoils");
         TinKitchen lots = Kitchens.ingredients(2);
         Check.due("none: about(0, 6)", 0, lots.about(0, 6));

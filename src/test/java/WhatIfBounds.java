@@ -45,9 +45,11 @@ final class WhatIfBounds {
         Check.due("none are bought: bestPortions(0, 1, 1)", 1, kitchen.bestPortions(0, 1, 1));
         Check.due("none are bought: bestPortions(0, 1, 3)", 1, kitchen.bestPortions(0, 1, 3));
         Document.sentence("`least`: 1 to 20");
-        Check.taken(WhatIfBounds::thirties, "bestPortions(0, #, 20)", (k, least) -> k.bestPortions(0, least, 20), 1, 20, 11, 20, 20, 20);
+        Check.taken(WhatIfBounds::thirties, "bestPortions(0, #, 20)", (k, least) -> k.bestPortions(0, least, 20),
+            1, 20, 11, 20, 20, 20);
         Document.sentence("`most`: least to 20");
-        Check.taken(WhatIfBounds::thirties, "bestPortions(0, 4, #)", (k, most) -> k.bestPortions(0, 4, most), 4, 4, 5, 5, 6, 6, 9, 6, 20, 20);
+        Check.taken(WhatIfBounds::thirties, "bestPortions(0, 4, #)", (k, most) -> k.bestPortions(0, 4, most),
+            4, 4, 5, 5, 6, 6, 9, 6, 20, 20);
         Check.taken(WhatIfBounds::thirties, "bestPortions(0, #, #)", (k, both) -> k.bestPortions(0, both, both), 1, 1, 7, 7, 20, 20);
         Document.sentence("Returns the portions, of several the most");
         Check.due("10 and 20 leave nothing: bestPortions(0, 1, 20)", 20, thirties().bestPortions(0, 1, 20));
